@@ -46,10 +46,10 @@ public final class SightGraph {
     public int event(int node, int self, int other)
             throws IllegalArgumentException, IndexOutOfBoundsException {
         requireNode(node);
-        if (!maybeSelfParent(node, self)) {
+        if (!mayBeSelfParent(node, self)) {
             throw new IllegalArgumentException("the self-parent is no event of the node");
         }
-        if (!maybeOtherParent(node, other)) {
+        if (!mayBeOtherParent(node, other)) {
             throw new IllegalArgumentException("the other-parent is no event of another node");
         }
         if (events >= MOST_EVENTS) {
@@ -150,11 +150,11 @@ public final class SightGraph {
         return x >= 0 && x < events;
     }
 
-    private boolean maybeSelfParent(int node, int self) {
+    private boolean mayBeSelfParent(int node, int self) {
         return self == NONE || isEvent(self) && creators[self] == node;
     }
 
-    private boolean maybeOtherParent(int node, int other) {
+    private boolean mayBeOtherParent(int node, int other) {
         return other == NONE || isEvent(other) && creators[other] != node;
     }
 

@@ -7,6 +7,7 @@ public final class AncestryTest {
         forkedAncestorsStayAncestors();
         ownGoesThroughSelfParentsAlone();
         longChainsHoldTogether();
+        strangersStayApart();
         refusesUnknownEvents();
         CHECKS.end();
     }
@@ -56,6 +57,19 @@ public final class AncestryTest {
             CHECKS.due("ancestor(64, " + y + ")", y <= 64, g.ancestor(64, y));
             CHECKS.due("own(63, " + y + ")", y <= 63, g.own(63, y));
             CHECKS.due("ancestor(" + y + ", 63)", y >= 63, g.ancestor(y, 63));
+        }
+    }
+
+    private static void strangersStayApart() {
+        SightGraph g = Graphs.begun(8);
+        for (int e = 0; e < Graphs.MOST_EVENTS; e++) {
+            g.event(e % 8, -1, -1);
+        }
+        for (int x = 0; x < Graphs.MOST_EVENTS; x++) {
+            for (int y = 0; y < Graphs.MOST_EVENTS; y++) {
+                CHECKS.due("ancestor(" + x + ", " + y + ")", x == y, g.ancestor(x, y));
+                CHECKS.due("own(" + x + ", " + y + ")", x == y, g.own(x, y));
+            }
         }
     }
 
