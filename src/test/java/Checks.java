@@ -1,6 +1,7 @@
 /** Counts and prints the answers that are not as due. */
 final class Checks {
     private final String name;
+    private String sentence = "";
     private int made = 0;
     private int wrong = 0;
 
@@ -8,11 +9,16 @@ final class Checks {
         this.name = name;
     }
 
+    /** Names the document's sentence that the next checks hold the class to. */
+    void about(String words) {
+        sentence = " [" + words + "]";
+    }
+
     void due(String call, Object want, Object got) {
         made++;
         if (!want.equals(got)) {
             wrong++;
-            System.out.println(name + ": " + call + " answered " + got + ", due is " + want);
+            System.out.println(name + ": " + call + " answered " + got + ", due is " + want + sentence);
         }
     }
 
@@ -25,11 +31,15 @@ final class Checks {
     }
 
     void throwsArgument(String call, Runnable run) {
-        due(call, "throws." + IllegalArgumentException.class.getSimpleName(), outcome(run));
+        throwsOne(call, IllegalArgumentException.class, run);
     }
 
     void throwsIndex(String call, Runnable run) {
-        due(call, "throws." + IndexOutOfBoundsException.class.getSimpleName(), outcome(run));
+        throwsOne(call, IndexOutOfBoundsException.class, run);
+    }
+
+    void throwsOne(String call, Class<? extends RuntimeException> want, Runnable run) {
+        due(call, "throws." + want.getSimpleName(), outcome(run));
     }
 
     // The very class counts: an ArrayIndexOutOfBoundsException would be the program's own fault.

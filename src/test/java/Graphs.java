@@ -28,6 +28,11 @@ final class Graphs {
      */
     static SightGraph lateFork() {
         SightGraph g = new SightGraph();
+        addLateFork(g);
+        return g;
+    }
+
+    static void addLateFork(SightGraph g) {
         g.event(0, NONE, NONE);
         g.event(0, NONE, NONE);
         g.event(1, NONE, 0);
@@ -37,15 +42,19 @@ final class Graphs {
         g.event(1, 5, 4);
         g.event(2, 3, 1);
         g.event(2, 7, 6);
+    }
+
+    /** Events of node 0 alone, of four nodes, each the self-parent of the next. */
+    static SightGraph chain(int events) {
+        SightGraph g = new SightGraph();
+        for (int e = 0; e < events; e++) {
+            g.event(0, e - 1, NONE);
+        }
         return g;
     }
 
     /** As many events as there may be, all of node 0 in one chain. */
     static SightGraph fullChain() {
-        SightGraph g = new SightGraph();
-        for (int e = 0; e < MOST_EVENTS; e++) {
-            g.event(0, e - 1, NONE);
-        }
-        return g;
+        return chain(MOST_EVENTS);
     }
 }

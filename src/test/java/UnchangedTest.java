@@ -1,3 +1,5 @@
+import java.util.function.Supplier;
+
 /** A call that throws changes nothing: every answer stays as it was. */
 public final class UnchangedTest {
     private static final Checks CHECKS = new Checks("UnchangedTest");
@@ -8,11 +10,17 @@ public final class UnchangedTest {
         wrongCallsLeave("a fork", Graphs.lateFork(), 4);
         wrongCallsLeave("a full object", Graphs.fullChain(), 4);
         aFullObjectRefusesWithoutTrace();
+        eachRefusedCallLeavesAnEmptyObject();
+        eachRefusedCallLeavesEveryNumberOfNodes();
+        eachRefusedCallLeavesADialogue();
+        eachRefusedCallLeavesAFork();
+        eachRefusedCallLeavesAFullObject();
+        eventsGoOnAfterEachRefusedCall();
         CHECKS.end();
     }
 
     private static void wrongCallsLeave(String name, SightGraph g, int nodes) {
-        String before = answers(g, nodes);
+        String before = Answers.all(g, nodes);
         int events = g.count(0);
         CHECKS.throwsArgument("begin(1)", () -> g.begin(1));
         CHECKS.throwsArgument("begin(9)", () -> g.begin(9));
@@ -29,33 +37,87 @@ public final class UnchangedTest {
         CHECKS.throwsIndex("round", () -> g.round(events));
         CHECKS.throwsIndex("witness", () -> g.witness(-1));
         CHECKS.throwsArgument("count", () -> g.count(4));
-        CHECKS.isTrue("the answers of " + name + " stay", before.equals(answers(g, nodes)));
+        CHECKS.isTrue("the answers of " + name + " stay", before.equals(Answers.all(g, nodes)));
     }
 
     private static void aFullObjectRefusesWithoutTrace() {
         SightGraph g = Graphs.fullChain();
-        String before = answers(g, 4);
+        String before = Answers.all(g, 4);
         CHECKS.throwsIndex("event(1, -1, 119)", () -> g.event(1, -1, 119));
         CHECKS.throwsIndex("event(0, -1, -1)", () -> g.event(0, -1, -1));
-        CHECKS.isTrue("the answers of a full object stay", before.equals(answers(g, 4)));
+        CHECKS.isTrue("the answers of a full object stay", before.equals(Answers.all(g, 4)));
     }
 
-    private static String answers(SightGraph g, int nodes) {
-        StringBuilder all = new StringBuilder();
-        for (int what = 0; what < 4; what++) {
-            all.append(g.count(what)).append(' ');
+    private static void eachRefusedCallLeavesAnEmptyObject() {
+        CHECKS.about("a call that throws changes nothing, of an object without EVENTS");
+        eachRefusedCallLeaves(SightGraph::new, 4);
+    }
+
+    private static void eachRefusedCallLeavesEveryNumberOfNodes() {
+        CHECKS.about("a call that throws changes nothing, of n NODES");
+        for (int n = Numbers.LEAST_NODES; n <= Numbers.MOST_NODES; n++) {
+            int nodes = n;
+            eachRefusedCallLeaves(() -> Graphs.begun(nodes), n);
         }
-        int events = g.count(0);
-        for (int x = 0; x < events; x++) {
-            all.append(g.round(x)).append(g.witness(x));
-            for (int node = 0; node < nodes; node++) {
-                all.append(g.forked(x, node));
-            }
-            for (int y = 0; y < events; y++) {
-                all.append(g.ancestor(x, y)).append(g.own(x, y)).append(g.sees(x, y));
-                all.append(g.strength(x, y)).append(g.strongly(x, y));
-            }
+    }
+
+    private static void eachRefusedCallLeavesADialogue() {
+        CHECKS.about("a call that throws changes nothing, of ROUNDS");
+        eachRefusedCallLeaves(() -> Graphs.dialogue(9), 2);
+    }
+
+    private static void eachRefusedCallLeavesAFork() {
+        CHECKS.about("a call that throws changes nothing, of a FORK");
+        eachRefusedCallLeaves(Graphs::lateFork, 4);
+    }
+
+    // Each call on an object of its own, so that none hides another's trace.
+    private static void eachRefusedCallLeaves(Supplier<SightGraph> make, int nodes) {
+        String due = Answers.all(make.get(), nodes);
+        for (Refused refused : Refused.all(nodes, make.get().count(0))) {
+            SightGraph g = make.get();
+            refused.check(CHECKS, g);
+            CHECKS.due("all answers after " + refused.call(), due, Answers.all(g, nodes));
         }
-        return all.toString();
+    }
+
+    private static void eachRefusedCallLeavesAFullObject() {
+        CHECKS.about("a call that throws changes nothing, of a full object");
+        String due = Answers.some(fullDialogue(), 2);
+        for (Refused refused : Refused.all(2, Graphs.MOST_EVENTS)) {
+            fullObjectIsLeft(refused, due);
+        }
+        fullObjectIsLeft(Refused.index("event(0, -1, -1)", g -> g.event(0, -1, -1)), due);
+        fullObjectIsLeft(Refused.index("event(0, 118, 119)", g -> g.event(0, 118, 119)), due);
+        fullObjectIsLeft(Refused.index("event(1, 1, 0)", g -> g.event(1, 1, 0)), due);
+    }
+
+    private static SightGraph fullDialogue() {
+        return Graphs.dialogue(Graphs.MOST_EVENTS);
+    }
+
+    private static void fullObjectIsLeft(Refused refused, String due) {
+        SightGraph g = fullDialogue();
+        refused.check(CHECKS, g);
+        CHECKS.due("answers after " + refused.call(), due, Answers.some(g, 2));
+    }
+
+    // What a refused call might leave behind could show in the events that come after it.
+    private static void eventsGoOnAfterEachRefusedCall() {
+        CHECKS.about("a call that throws changes nothing, of what comes after it");
+        String due = Answers.all(Graphs.lateFork(), 4);
+        for (Refused refused : Refused.all(4, 0)) {
+            SightGraph g = new SightGraph();
+            refused.check(CHECKS, g);
+            Graphs.addLateFork(g);
+            CHECKS.due("all answers of events after " + refused.call(), due, Answers.all(g, 4));
+        }
+        for (Refused refused : Refused.all(2, 5)) {
+            SightGraph g = Graphs.dialogue(5);
+            refused.check(CHECKS, g);
+            CHECKS.due("event(1, 3, 4) after " + refused.call(), 5, g.event(1, 3, 4));
+            CHECKS.due("round(5) after " + refused.call(), 3, g.round(5));
+            CHECKS.due("count(2) after " + refused.call(), 0, g.count(2));
+        }
     }
 }
