@@ -50,8 +50,12 @@ public final class AncestryTest {
     }
 
     private static void longChainsHoldTogether() {
-        SightGraph g = Graphs.fullChain();
+        Replayed chain = new Replayed(4);
+        for (int e = 0; e < Graphs.MOST_EVENTS; e++) {
+            chain.event(0, e - 1, -1);
+        }
         for (int y = 0; y < Graphs.MOST_EVENTS; y++) {
+            SightGraph g = chain.forCalls(5);
             CHECKS.isTrue("ancestor(119, " + y + ")", g.ancestor(119, y));
             CHECKS.isTrue("own(119, " + y + ")", g.own(119, y));
             CHECKS.due("ancestor(64, " + y + ")", y <= 64, g.ancestor(64, y));
@@ -61,12 +65,13 @@ public final class AncestryTest {
     }
 
     private static void strangersStayApart() {
-        SightGraph g = Graphs.begun(8);
+        Replayed strangers = new Replayed(8);
         for (int e = 0; e < Graphs.MOST_EVENTS; e++) {
-            g.event(e % 8, -1, -1);
+            strangers.event(e % 8, -1, -1);
         }
         for (int x = 0; x < Graphs.MOST_EVENTS; x++) {
             for (int y = 0; y < Graphs.MOST_EVENTS; y++) {
+                SightGraph g = strangers.forCalls(2);
                 CHECKS.due("ancestor(" + x + ", " + y + ")", x == y, g.ancestor(x, y));
                 CHECKS.due("own(" + x + ", " + y + ")", x == y, g.own(x, y));
             }

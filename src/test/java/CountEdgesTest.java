@@ -9,6 +9,7 @@ public final class CountEdgesTest {
         nodesAreCountedFromTheLeastToTheGreatest();
         forksAreCountedFromNoneToAll();
         aForkOfTheLastEventCounts();
+        aForkOfTheFirstAndTheLastEventCounts();
         theGreatestRoundIsZeroWithoutEvents();
         theGreatestRoundIsOneWithTheFirstEvent();
         theGreatestRoundNeedNotBeTheLast();
@@ -76,6 +77,20 @@ public final class CountEdgesTest {
             SightGraph g = Graphs.chain(size);
             g.event(0, size - 2, -1);
             CHECKS.due("count(2) with a branch at " + size, 1, g.count(2));
+        }
+    }
+
+    private static void aForkOfTheFirstAndTheLastEventCounts() {
+        CHECKS.about("12: 2: NODES that have a FORK, of the first EVENT and the last alone");
+        for (int last : new int[] {1, 2, 31, 32, 62, 63, 64, 65, 118, 119}) {
+            SightGraph g = Graphs.begun(2);
+            g.event(0, -1, -1);
+            for (int e = 1; e < last; e++) {
+                g.event(1, e == 1 ? -1 : e - 1, -1);
+            }
+            CHECKS.due("count(2) of " + last, 0, g.count(2));
+            g.event(0, -1, -1);
+            CHECKS.due("count(2) with a second root at " + last, 1, g.count(2));
         }
     }
 

@@ -7,18 +7,16 @@ public final class DefinitionTest {
     private static int strongUnseen = 0;
 
     public static void main(String[] args) {
-        // One object for all graphs, so that what begin leaves behind would show.
-        SightGraph g = new SightGraph();
         for (int seed = 0; seed < 140; seed++) {
-            compareOne(g, new Random(seed), 2 + seed % 7, seed % 5 * 3);
+            compareOne(new Random(seed), 2 + seed % 7, seed % 5 * 3);
         }
         CHECKS.isTrue("the graphs reach many rounds", mostRounds >= 6);
         CHECKS.isTrue("the graphs strongly see forkers", strongUnseen > 0);
         CHECKS.end();
     }
 
-    private static void compareOne(SightGraph g, Random random, int nodes, int forksInHundred) {
-        g.begin(nodes);
+    private static void compareOne(Random random, int nodes, int forksInHundred) {
+        Replayed graph = new Replayed(nodes);
         PlainModel model = new PlainModel(nodes);
         int events = random.nextInt(6) == 0 ? Graphs.MOST_EVENTS : 20 + random.nextInt(40);
         for (int e = 0; e < events; e++) {
@@ -26,11 +24,11 @@ public final class DefinitionTest {
             int self = pickSelf(model, random, node, forksInHundred);
             int other = pickOther(model, random, node);
             model.event(node, self, other);
-            CHECKS.due("event(" + node + ", " + self + ", " + other + ")", e, g.event(node, self, other));
-            compareEvent(g, model, nodes, e);
+            CHECKS.due("event(" + node + ", " + self + ", " + other + ")", e, graph.event(node, self, other));
+            compareEvent(graph.forCalls(2 + nodes + 4), model, nodes, e);
         }
-        comparePairs(g, model, random);
-        mostRounds = Math.max(mostRounds, g.count(3));
+        comparePairs(graph, model, random);
+        mostRounds = Math.max(mostRounds, graph.forCalls(1).count(3));
     }
 
     private static int pickSelf(PlainModel model, Random random, int node, int forksInHundred) {
@@ -66,12 +64,12 @@ public final class DefinitionTest {
         CHECKS.due("count(3)", model.greatestRound(), g.count(3));
     }
 
-    private static void comparePairs(SightGraph g, PlainModel model, Random random) {
+    private static void comparePairs(Replayed graph, PlainModel model, Random random) {
         boolean all = model.size() <= 40;
         for (int x = 0; x < model.size(); x++) {
             for (int y = 0; y < model.size(); y++) {
                 if (all || random.nextInt(8) == 0) {
-                    comparePair(g, model, x, y);
+                    comparePair(graph.forCalls(7), model, x, y);
                 }
             }
         }

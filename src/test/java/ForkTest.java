@@ -9,6 +9,7 @@ public final class ForkTest {
         aNodeMaySeeItsOwnFork();
         branchesApartAreSeenTogetherOnly();
         lateEventsForkToo();
+        theFirstEventAndALateOneAreAFork();
         refusesUnknownNodesAndEvents();
         looksAtTheNodeFirst();
         CHECKS.end();
@@ -82,6 +83,23 @@ public final class ForkTest {
         CHECKS.isFalse("forked(118, 7)", g.forked(118, 7));
         CHECKS.isTrue("forked(119, 7)", g.forked(119, 7));
         CHECKS.isFalse("forked(119, 6)", g.forked(119, 6));
+    }
+
+    // Node 0 has these two events alone; the node that knows both tells them by its last event.
+    private static void theFirstEventAndALateOneAreAFork() {
+        for (int late : new int[] {3, 31, 32, 63, 64, 65, 117, 118}) {
+            SightGraph g = Graphs.begun(2);
+            g.event(0, -1, -1);
+            g.event(1, -1, 0);
+            for (int e = 2; e < late; e++) {
+                g.event(1, e - 1, -1);
+            }
+            g.event(0, -1, -1);
+            g.event(1, late - 1, late);
+            CHECKS.isFalse("forked(" + (late - 1) + ", 0)", g.forked(late - 1, 0));
+            CHECKS.isTrue("forked(" + (late + 1) + ", 0)", g.forked(late + 1, 0));
+            CHECKS.isFalse("sees(" + (late + 1) + ", 0)", g.sees(late + 1, 0));
+        }
     }
 
     private static void refusesUnknownNodesAndEvents() {
