@@ -6,7 +6,12 @@ final class Answers {
     static String all(SightGraph g, int nodes) {
         StringBuilder all = new StringBuilder();
         addCounts(all, g);
-        int events = g.count(0);
+        return all.append(ofFirst(g, nodes, g.count(0))).toString();
+    }
+
+    /** Those about the first so many events alone. */
+    static String ofFirst(SightGraph g, int nodes, int events) {
+        StringBuilder all = new StringBuilder();
         for (int x = 0; x < events; x++) {
             all.append('\n').append(x).append(": ");
             addEvent(all, g, nodes, x);

@@ -13,6 +13,9 @@ public final class FaceTest {
 
     public static void main(String[] args) {
         CHECKS.due("modifiers", Modifier.PUBLIC | Modifier.FINAL, SightGraph.class.getModifiers());
+        CHECKS.due("superclass, for what it would bring along", Object.class, SightGraph.class.getSuperclass());
+        CHECKS.due("interfaces", 0, SightGraph.class.getInterfaces().length);
+        CHECKS.due("package", "", SightGraph.class.getPackageName());
         CHECKS.due("members", face(), visibleMembers());
         CHECKS.end();
     }

@@ -18,6 +18,10 @@ final class PlainModel {
         this.nodes = nodes;
     }
 
+    int nodes() {
+        return nodes;
+    }
+
     int size() {
         return creators.size();
     }
